@@ -32,6 +32,10 @@ public final class TithedThoughts {
     private static final int MOST_STAKE = 9;
     private static final int WHOLE_CHANCE = 1000000;
 
+    // A word's letters (a is 1) go into one long, five bits each, so that words are compared as numbers.
+    private static final long LETTERS = 32;
+    private static final int BEFORE_A = 'a' - 1;
+
     private static final int PLAIN = 0;
     private static final int SIMPLE = 1;
     private static final int CLEVER = 2;
@@ -546,16 +550,11 @@ public final class TithedThoughts {
         Word(String text, boolean mayName, int value) {
             long packed = 0;
             for (int i = 0; i < text.length(); i++) {
-                packed = withLetter(packed, text.charAt(i));
+                packed = packed * LETTERS + (text.charAt(i) - BEFORE_A);
             }
             this.letters = packed;
             this.mayName = mayName;
             this.value = value;
-        }
-
-        /** Eight letters of five bits each go into one long, so that words are compared as numbers. */
-        static long withLetter(long letters, int sign) {
-            return letters * 32 + (sign - 'a' + 1);
         }
 
         static Word of(long letters) {
@@ -622,24 +621,20 @@ public final class TithedThoughts {
             }
             start = behind;
             word = Word.NOTHING;
-            if (start >= length) {
+            int sign = start < length ? signs[start] : NONE;
+            if (sign == NONE) {
                 kind = END;
-            } else if (isLetter(start)) {
-                readWord();
-            } else if (isDigit(start)) {
-                readNumber();
+            } else if (sign >= 'a' && sign <= 'z') {
+                readLetters();
+                kind = behind - start <= MOST_LETTERS ? WORD : WRONG;
+                word = kind == WORD ? Word.of(letters) : Word.NOTHING;
+            } else if (sign >= '0' && sign <= '9') {
+                readDigits();
+                kind = behind - start <= MOST_DIGITS ? NUMBER : WRONG;
             } else {
                 behind++;
-                kind = isSign(signs[start]) ? signs[start] : WRONG;
+                kind = isSign(sign) ? sign : WRONG;
             }
-        }
-
-        private boolean isLetter(int at) {
-            return at < length && signs[at] >= 'a' && signs[at] <= 'z';
-        }
-
-        private boolean isDigit(int at) {
-            return at < length && signs[at] >= '0' && signs[at] <= '9';
         }
 
         private static boolean isSign(int sign) {
@@ -647,27 +642,20 @@ public final class TithedThoughts {
                 || sign == '*' || sign == ';';
         }
 
-        private void readWord() {
+        private void readLetters() {
             letters = 0;
-            while (isLetter(behind)) {
-                letters = Word.withLetter(letters, signs[behind]);
+            while (behind < length && signs[behind] >= 'a' && signs[behind] <= 'z') {
+                letters = letters * LETTERS + (signs[behind] - BEFORE_A);
                 behind++;
-            }
-            if (behind - start <= MOST_LETTERS) {
-                kind = WORD;
-                word = Word.of(letters);
-            } else {
-                kind = WRONG;
             }
         }
 
-        private void readNumber() {
+        private void readDigits() {
             number = 0;
-            while (isDigit(behind)) {
+            while (behind < length && signs[behind] >= '0' && signs[behind] <= '9') {
                 number = number * 10 + (signs[behind] - '0');
                 behind++;
             }
-            kind = behind - start <= MOST_DIGITS ? NUMBER : WRONG;
         }
     }
 
@@ -701,7 +689,20 @@ public final class TithedThoughts {
             draft.clear();
             begin(draft);
             for (int i = 0; i < MOST_SIGNS && goesOn(); i++) {
-                readTelling();
+                Word word = tokens.word;
+                if (word == Word.THOUGHT_WORD) {
+                    readThought();
+                } else if (word == Word.FOLLOWS) {
+                    readFollows();
+                } else if (word == Word.TENANT) {
+                    readTenant();
+                } else if (word == Word.TITHE || word == Word.RUNS || word == Word.ENGINE) {
+                    readSetting(word);
+                } else if (word == Word.GAINS || word == Word.BACK) {
+                    readLaw(word);
+                } else {
+                    fail(MISPLACED);
+                }
             }
             tokens.empty();
             return fault;
@@ -739,23 +740,6 @@ public final class TithedThoughts {
 
         // ---- an ABBEY
 
-        private void readTelling() {
-            Word word = tokens.word;
-            if (word == Word.THOUGHT_WORD) {
-                readThought();
-            } else if (word == Word.FOLLOWS) {
-                readFollows();
-            } else if (word == Word.TENANT) {
-                readTenant();
-            } else if (word == Word.TITHE || word == Word.RUNS || word == Word.ENGINE) {
-                readSetting(word);
-            } else if (word == Word.GAINS || word == Word.BACK) {
-                readLaw(word);
-            } else {
-                fail(MISPLACED);
-            }
-        }
-
         private void readThought() {
             if (abbey.thoughts >= MOST_THOUGHTS) {
                 fail(TOO_MANY);
@@ -776,12 +760,12 @@ public final class TithedThoughts {
         private void readFollows() {
             tokens.advance();
             int follower = thoughtHere();
-            passToken();
+            passUnlessFault();
             int followed = thoughtHere();
             if (fault == 0 && abbey.isTold(follower, followed)) {
                 fail(AGAIN);
             }
-            passToken();
+            passUnlessFault();
             passSign(';');
             if (fault == 0) {
                 abbey.addFollower(follower, followed);
@@ -799,7 +783,7 @@ public final class TithedThoughts {
             if (!kind.isKind()) {
                 fail(MISPLACED);
             }
-            passToken();
+            passUnlessFault();
             passSign(';');
             if (fault == 0) {
                 abbey.addTenant(name, kind.value);
@@ -837,7 +821,7 @@ public final class TithedThoughts {
                 fail(AGAIN);
             }
             abbey.once |= word.value;
-            passToken();
+            passUnlessFault();
         }
 
         // ---- the E of a law
@@ -922,11 +906,11 @@ public final class TithedThoughts {
             }
             tokens.advance();
             int tenant = tenantHere();
-            passToken();
+            passUnlessFault();
             int thought = 0;
             if (deed != Word.GATE_WORD) {
                 thought = thoughtHere();
-                passToken();
+                passUnlessFault();
             }
             passSign(';');
             if (fault == 0) {
@@ -937,7 +921,7 @@ public final class TithedThoughts {
 
         // ---- single tokens
 
-        private void passToken() {
+        private void passUnlessFault() {
             if (fault == 0) {
                 tokens.advance();
             }
@@ -946,15 +930,17 @@ public final class TithedThoughts {
         private void passWord(Word word) {
             if (tokens.word != word) {
                 fail(MISPLACED);
+            } else if (fault == 0) {
+                tokens.advance();
             }
-            passToken();
         }
 
         private void passSign(int sign) {
             if (tokens.kind != sign) {
                 fail(MISPLACED);
+            } else if (fault == 0) {
+                tokens.advance();
             }
-            passToken();
         }
 
         private int numberWithin(int low, int high) {
@@ -964,7 +950,7 @@ public final class TithedThoughts {
             } else if (number < low || number > high) {
                 fail(UNFIT);
             }
-            passToken();
+            passUnlessFault();
             return fault == 0 ? number : low;
         }
 
@@ -975,7 +961,7 @@ public final class TithedThoughts {
             } else if (abbey.thoughtNamed(name) != NONE || abbey.tenantNamed(name) != NONE) {
                 fail(AGAIN);
             }
-            passToken();
+            passUnlessFault();
             return name;
         }
 
