@@ -83,6 +83,13 @@ public final class BarnTest {
         t.pool(3, 0);
         t.pool(3, 2);
         Check.due("nothing is lacked", t.givers(), 0);
+        TithedThoughts f = Check.told(ABBEY + "engine 2;");
+        keep(f, 0, 0);
+        keep(f, 1, 1);
+        Check.due("two", f.givers(), 3);
+        keep(f, 2, 0);
+        keep(f, 2, 1);
+        Check.due("fewer go ahead of the least set", f.givers(), 4);
         TithedThoughts r = Check.told(ABBEY + "engine 1;");
         run(r, 4);
         Check.due("who ran gives nothing", r.givers(), -1);
@@ -188,6 +195,15 @@ public final class BarnTest {
         Check.due("none", t.fits(), 0);
         t.mark(0, true);
         Check.due("b, c again", t.fits(), 6);
+        TithedThoughts u = Check.told(FOLLOWS + "follows d a;follows c a;follows c b;follows c c;");
+        u.mark(0, false);
+        u.guess(3, true);
+        u.mark(1, false);
+        u.mark(0, true);
+        u.guess(2, false);
+        Check.due("d", u.fits(), 8);
+        u.mark(1, true);
+        Check.due("a", u.fits(), 1);
     }
 
     private static void rest(int both, int loses, int gets, int... want) {

@@ -107,10 +107,13 @@ public final class DeedsTest {
         Check.due("keeps no b", t.keeps(0, 1), 0);
         Check.due("keeps c", t.keeps(0, 2), 1);
         state("tithed", t, 0, new int[] {2, 0, 8, 0, 15});
+        Check.due("a", t.think(0, 0), -2);
+        Check.due("d", t.think(0, 3), -2);
+        Check.due("a is the tithe, nothing of what was counted ahead", t.think(0, 0), 0);
         Check.due("d", t.think(0, 3), -2);
         Check.due("a", t.think(0, 0), -2);
         Check.due("b is the tithe itself", t.think(0, 1), 1);
-        state("tithed again", t, 0, new int[] {1, 0, 24, 0, 15});
+        state("tithed again", t, 0, new int[] {1, 0, 44, 0, 15});
         Check.due("keeps no b", t.keeps(0, 1), 0);
         Check.due("b in the barn", t.thought(1, 3), 2);
     }
@@ -187,6 +190,14 @@ public final class DeedsTest {
         Check.due("of d, a, a the first a", t.think(0, 0), 0);
         Check.due("b is kept", t.keeps(0, 1), 1);
         Check.due("a is kept once", t.keeps(0, 0), 1);
+        t.gate(0);
+        t.think(0, 0);
+        t.think(0, 2);
+        Check.due("the last one stays", t.gate(0), 1);
+        t.think(0, 1);
+        Check.due("of c, b, d it is c", t.think(0, 3), 2);
+        Check.due("b is kept still", t.keeps(0, 1), 2);
+        Check.due("no c is", t.keeps(0, 2), 0);
     }
 
     private static void pool() {

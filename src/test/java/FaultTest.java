@@ -293,5 +293,21 @@ public final class FaultTest {
         Check.due("anew: follows", t.thought(0, 2), 0);
         Check.due("anew: think", t.think(0, 1), -2);
         Check.due("anew: rich is gained", t.tenant(0, 3), 2);
+        Check.due("settings", Check.abbey(t, "tithe 5;runs 6;engine 4;"), 0);
+        Check.due("empty", t.abbey(), 0);
+        Check.due("tithe as at first", t.count(2), 10);
+        Check.due("runs as at first", t.count(3), 10);
+        Check.due("engine as at first", t.count(4), 3);
+        longLaws(t);
+    }
+
+    /** As many laws as one likes, one behind another, each as long as the tape can be. */
+    private static void longLaws(TithedThoughts t) {
+        for (int i = 1; i <= 4; i++) {
+            String text = "thought a worth 1 part 1;tenant p plain;gains " + "1+".repeat(450) + "1-" + (451 - i) + ";";
+            Check.due("long law", Check.abbey(t, text), 0);
+            t.think(0, 0);
+            Check.due("gained by a long law", t.tenant(0, 3), i);
+        }
     }
 }

@@ -78,6 +78,13 @@ public final class RowsTest {
         k.think(2, 1);
         // a would be the tithe itself and gain nothing.
         row(k, 2, 2, 8 + 9, 2, 2);
+        TithedThoughts edge = Check.told(all.replace("runs 6", "runs 8"));
+        // c is not more than runs: the tithe gains nothing, whichever it is.
+        row(edge, 3, 3, 16, 2, 2, 0);
+        TithedThoughts chain = Check.told("thought a worth 1 part 0;thought b worth 9 part 0;thought c worth 8 part 0;"
+            + "thought d worth 7 part 0;follows b a;follows c b;follows d c;tenant k clever;tithe 2;");
+        // a is the first tithe; d is the second one itself, whatever was counted ahead of the first.
+        row(chain, 0, 4, 18, 0, 1, 2, 3);
     }
 
     private static void tithed() {
@@ -120,6 +127,22 @@ public final class RowsTest {
         int[] want = {35, -1, 23, -1, 11, -1, -1};
         for (int i = 0; i < 7; i++) {
             Check.due("in a ring " + i, ring.tithed(0, i), want[i]);
+        }
+        for (int i = 1; i < 12; i++) {
+            ring.think(0, i % 7);
+        }
+        // Nothing is counted, te was last: 12, 24 and 36 modulo 7 are 5, 3, 1.
+        int[] then = {24, -1, 12, -1, -1, 36, -1};
+        for (int i = 0; i < 7; i++) {
+            Check.due("in a ring, by 36 " + i, ring.tithed(0, i), then[i]);
+        }
+        for (int i = 12; i < 23; i++) {
+            ring.think(0, i % 7);
+        }
+        // Eleven are counted, tb was last: 1, 13 and 25, but not 37, modulo 7 are 1, 6, 4 (and 2).
+        int[] late = {13, -1, 1, -1, -1, 25, -1};
+        for (int i = 0; i < 7; i++) {
+            Check.due("in a ring, not by 37 " + i, ring.tithed(0, i), late[i]);
         }
         TithedThoughts fresh36 = Check.told("thought a worth 1 part 1;follows a a;tenant p plain;tithe 12;");
         Check.due("by twelve", fresh36.tithed(0, 0), 12);
@@ -208,6 +231,8 @@ public final class RowsTest {
         // 333333 each; a 111111 from a and 333333 from b; what c has is lost.
         Check.due("cut", cut.chance(0, 0), 444444);
         Check.due("cut", cut.chance(0, 1), 111111);
+        TithedThoughts sure = Check.told("thought a worth 1 part 1;follows a a;tenant p plain;tithe 12;");
+        Check.due("sure", sure.chance(0, 0), 1000000);
     }
 
     private static void deadAndRing() {

@@ -100,7 +100,7 @@ public final class YearsTest {
         TithedThoughts none = Check.told("tenant p plain;");
         Check.due("no thoughts", none.lives(5, 50, 0), 0);
         Check.due("no thoughts", none.lives(5, 50, 2), 0);
-        TithedThoughts nobody = Check.told("thought a worth 5 part 1;");
+        TithedThoughts nobody = Check.told("thought a worth 5 part 1;follows a a;tithe 2;");
         Check.due("nobody", nobody.lives(5, 50, 0), 0);
         Check.none("nobody, wrong seed", () -> nobody.lives(-5, 50, 0));
     }
