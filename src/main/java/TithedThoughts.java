@@ -1011,9 +1011,7 @@ public final class TithedThoughts {
         private int backTo;
 
         Abbey() {
-            tithe = 10;
-            runs = 10;
-            engine = 3;
+            clear();
         }
 
         void clear() {
@@ -1053,17 +1051,16 @@ public final class TithedThoughts {
         }
 
         int thoughtNamed(long name) {
-            for (int i = 0; i < thoughts; i++) {
-                if (thoughtNames[i] == name) {
-                    return i;
-                }
-            }
-            return NONE;
+            return placeOf(name, thoughtNames, thoughts);
         }
 
         int tenantNamed(long name) {
-            for (int i = 0; i < tenants; i++) {
-                if (tenantNames[i] == name) {
+            return placeOf(name, tenantNames, tenants);
+        }
+
+        private static int placeOf(long name, long[] names, int many) {
+            for (int i = 0; i < many; i++) {
+                if (names[i] == name) {
                     return i;
                 }
             }
@@ -1181,7 +1178,7 @@ public final class TithedThoughts {
         private int began;
 
         State() {
-            Arrays.fill(last, NONE);
+            clear();
         }
 
         void clear() {
