@@ -12,6 +12,7 @@ public final class BarnTest {
         match();
         guesses();
         guessesByBoth();
+        askTheFirst();
         rests();
         Check.finish();
     }
@@ -204,6 +205,19 @@ public final class BarnTest {
         Check.due("d", u.fits(), 8);
         u.mark(1, true);
         Check.due("a", u.fits(), 1);
+    }
+
+    /** "if that is less than all; of equal ones the first" */
+    private static void askTheFirst() {
+        TithedThoughts t = Check.told(FOLLOWS + "follows a a;follows a b;follows b a;follows b b;follows c a;follows c b;");
+        Check.due("a, b and c part them alike", t.ask(), 0);
+        TithedThoughts last = Check.told(FOLLOWS + "follows a a;follows d a;follows d b;");
+        Check.due("d: two and two; a: one and three", last.ask(), 3);
+        TithedThoughts two = Check.told(Texts.thoughts(2) + "follows b b;");
+        Check.due("one and one", two.ask(), 1);
+        Check.yes("guess", two.guess(1, false));
+        Check.due("a alone", two.fits(), 1);
+        Check.due("one is not parted", two.ask(), -1);
     }
 
     private static void rest(int both, int loses, int gets, int... want) {

@@ -12,6 +12,7 @@ public final class FullTest {
         allBehindAll();
         fiveTenants();
         sixthTenant();
+        eightOfFive();
         fortyLines();
         line41();
         sixteenUndone();
@@ -151,6 +152,37 @@ public final class FullTest {
         for (String sixth : new String[] {"tenant u plain;", "tenant", "tenant p plain;", "tenant ;", "tenant u king"}) {
             Check.due(sixth, Check.abbey(new TithedThoughts(), five + sixth), fault);
         }
+    }
+
+    /** Eight thoughts that all may follow all, and five tenants who keep them: each question looks at all of them. */
+    private static void eightOfFive() {
+        String text = Texts.thoughts(8) + Texts.tenants(4, "plain") + "tenant t runner;tithe 12;runs 7;";
+        TithedThoughts t = Check.told(text + Texts.ring("abcdefgh"));
+        for (int i = 0; i < 5; i++) {
+            for (int k = 0; k < 8; k++) {
+                Check.due("think", t.think(i, k), -2);
+            }
+            Check.due("dowry", t.dowry(i), 36);
+            Check.due("gained", t.tenant(i, 3), 36);
+            Check.due("holder", t.holders(1), (2 << i) - 1);
+        }
+        Check.due("two pairs", t.match(-1), 2 * 36 * 36);
+        Check.due("the first has nobody", t.match(0), 0);
+        Check.due("the last one is with the fourth", t.match(4), 3);
+        for (int k = 0; k < 8; k++) {
+            Check.yes("pool", t.pool(4, k));
+        }
+        Check.due("worth of all eight", t.count(7), 36);
+        Check.due("eight", t.count(6), 8);
+        Check.due("the last one is the poorest", t.poorest(), 4);
+        Check.due("parts 2 and 3", t.lacks(), 6);
+        Check.due("the last one's next tithe", t.tithed(4, 3), 4);
+        Check.due("the first four behind h", t.best(4, 4, -1), 1 + 2 + 3);
+        for (int i = 0; i < 4; i++) {
+            Check.due("a to d", t.think(4, i), i < 3 ? -2 : 3);
+        }
+        Check.due("from d to h, and round", t.best(4, 5, -1), 5 + 6 + 7 + 8 + 1);
+        Check.due("h is its fourth", t.best(4, 5, 3), 7);
     }
 
     // ---- YEARS

@@ -8,11 +8,6 @@ public final class RefusedTest {
     private static final int LEAST = Integer.MIN_VALUE;
     private static final int MOST = Integer.MAX_VALUE;
     private static final int[] ODD = {LEAST, -1000, -2, -1, 8, 9, 32, 1000, MOST};
-    private static final String ABBEY = "thought a worth 4 part 1;thought b worth 2 part 2;thought c worth 2 part 0;"
-        + "thought d worth 12 part 3;" + Texts.behind('a', "abcd") + Texts.behind('b', "abc") + Texts.behind('c', "ab")
-        + Texts.behind('d', "a") + "tenant p plain;tenant s simple;tenant k clever;tenant r runner;tenant q plain;"
-        + "tithe 3;engine 4;gains rich+counted-barn;back counted-1;";
-
     private static final int NO_TENANT = 5;
     private static final int NO_THOUGHT = 4;
     private static final int RAN = 3;
@@ -38,39 +33,20 @@ public final class RefusedTest {
 
     // ---- objects that refuse
 
-    /** All that can be lies ahead: deeds to be undone, marks on 0 and 2, years, guesses, one who ran. */
-    private static TithedThoughts busy() {
-        TithedThoughts t = new TithedThoughts();
-        Check.abbey(t, ABBEY);
-        int[][] row = {{0, 0}, {0, 1}, {1, 3}, {2, 1}, {3, 0}, {3, 0}, {3, 3}, {4, 2}};
-        t.mark(2, false);
-        for (int[] one : row) {
-            t.think(one[0], one[1]);
-        }
-        t.guess(2, true);
-        Check.years(t, "think p a;gate s;think s b;pool p a;think p d;think p b;");
-        t.mark(0, false);
-        t.think(2, 2);
-        t.pool(0, 0);
-        t.gate(4);
-        t.guess(1, false);
-        return t;
-    }
-
     private static TithedThoughts withATape() {
-        TithedThoughts t = busy();
+        TithedThoughts t = Busy.make();
         Check.feed(t, "gate p;");
         return t;
     }
 
     private static TithedThoughts fullTape() {
-        TithedThoughts t = busy();
+        TithedThoughts t = Busy.make();
         Check.feed(t, " ".repeat(1000));
         return t;
     }
 
     private static TithedThoughts fullOfGuesses() {
-        TithedThoughts t = busy();
+        TithedThoughts t = Busy.make();
         for (int i = 0; i < 6; i++) {
             t.guess(0, true);
         }
@@ -79,7 +55,7 @@ public final class RefusedTest {
 
     /** Nothing can be undone, as a mark was gone back to. */
     private static TithedThoughts goneBack() {
-        TithedThoughts t = busy();
+        TithedThoughts t = Busy.make();
         t.mark(0, true);
         return t;
     }
@@ -101,7 +77,7 @@ public final class RefusedTest {
 
     /** If these calls, which do change something, left the twins alike, the looks would see too little. */
     private static void theTwinsDiffer() {
-        Check.yes("busy", busy().count(5) == 8 && busy().count(10) == 11 && busy().count(9) == 2 && busy().count(8) == 6);
+        Check.yes("busy", Busy.make().count(5) == 8 && Busy.make().count(10) == 11 && Busy.make().count(9) == 2 && Busy.make().count(8) == 6);
         seen("think", t -> t.think(0, 2));
         seen("gate", t -> t.gate(2));
         seen("pool", t -> t.pool(0, 1));
@@ -116,7 +92,7 @@ public final class RefusedTest {
     }
 
     private static void seen(String call, Consumer<TithedThoughts> more) {
-        Check.yes("a change is seen: " + call, Twins.differ(RefusedTest::busy, more));
+        Check.yes("a change is seen: " + call, Twins.differ(Busy::make, more));
     }
 
     // ---- what reads the TAPE
@@ -130,9 +106,9 @@ public final class RefusedTest {
             5 + 16 * Texts.thoughts(8).length(), 5 + 16 * 80, 1 + 16 * 8, 1 + 16 * 6, 1 + 16 * 8};
         for (int i = 0; i < texts.length; i++) {
             String text = texts[i];
-            refused("an abbey " + text, RefusedTest::busy, t -> Check.abbey(t, text), faults[i]);
+            refused("an abbey " + text, Busy::make, t -> Check.abbey(t, text), faults[i]);
         }
-        refused("an abbey of years", RefusedTest::busy, t -> Check.abbey(t, "gate p;"), 1);
+        refused("an abbey of years", Busy::make, t -> Check.abbey(t, "gate p;"), 1);
     }
 
     private static void yearsWithAFault() {
@@ -142,9 +118,9 @@ public final class RefusedTest {
             1 + 16 * 16};
         for (int i = 0; i < texts.length; i++) {
             String text = texts[i];
-            refused("years " + text, RefusedTest::busy, t -> Check.years(t, text), faults[i]);
+            refused("years " + text, Busy::make, t -> Check.years(t, text), faults[i]);
         }
-        refused("years of an abbey", RefusedTest::busy, t -> Check.years(t, "tithe 3;"), 1);
+        refused("years of an abbey", Busy::make, t -> Check.years(t, "tithe 3;"), 1);
     }
 
     /** "others than 10 and 32 .. 126, and what is beyond 1,000, are left out" */
@@ -162,14 +138,14 @@ public final class RefusedTest {
             refused("think of tenant " + odd, RefusedTest::withATape, t -> t.think(odd, 0), -1);
             refused("think thought " + odd, RefusedTest::withATape, t -> t.think(0, odd), -1);
         }
-        refused("think of no tenant", RefusedTest::busy, t -> t.think(NO_TENANT, 0), -1);
-        refused("think no thought", RefusedTest::busy, t -> t.think(0, NO_THOUGHT), -1);
-        refused("d may not follow b", RefusedTest::busy, t -> t.think(0, 3), -1);
-        refused("d may not follow d", RefusedTest::busy, t -> t.think(1, 3), -1);
-        refused("c may not follow c", RefusedTest::busy, t -> t.think(2, 2), -1);
+        refused("think of no tenant", Busy::make, t -> t.think(NO_TENANT, 0), -1);
+        refused("think no thought", Busy::make, t -> t.think(0, NO_THOUGHT), -1);
+        refused("d may not follow b", Busy::make, t -> t.think(0, 3), -1);
+        refused("d may not follow d", Busy::make, t -> t.think(1, 3), -1);
+        refused("c may not follow c", Busy::make, t -> t.think(2, 2), -1);
         for (int i = 0; i < 4; i++) {
             int thought = i;
-            refused("who ran thinks", RefusedTest::busy, t -> t.think(RAN, thought), -1);
+            refused("who ran thinks", Busy::make, t -> t.think(RAN, thought), -1);
         }
     }
 
@@ -178,8 +154,8 @@ public final class RefusedTest {
         for (int odd : ODD) {
             refused("gate of tenant " + odd, RefusedTest::withATape, t -> t.gate(odd), -1);
         }
-        refused("gate of no tenant", RefusedTest::busy, t -> t.gate(NO_TENANT), -1);
-        refused("gate of who ran", RefusedTest::busy, t -> t.gate(RAN), -1);
+        refused("gate of no tenant", Busy::make, t -> t.gate(NO_TENANT), -1);
+        refused("gate of who ran", Busy::make, t -> t.gate(RAN), -1);
     }
 
     /** "false: others, he RAN, keeps none." */
@@ -188,12 +164,12 @@ public final class RefusedTest {
             refused("pool of tenant " + odd, RefusedTest::withATape, t -> bit(t.pool(odd, 0)), 0);
             refused("pool thought " + odd, RefusedTest::withATape, t -> bit(t.pool(0, odd)), 0);
         }
-        refused("pool of no tenant", RefusedTest::busy, t -> bit(t.pool(NO_TENANT, 0)), 0);
-        refused("pool no thought", RefusedTest::busy, t -> bit(t.pool(0, NO_THOUGHT)), 0);
-        refused("pool by who ran", RefusedTest::busy, t -> bit(t.pool(RAN, 3)), 0);
-        refused("pool what was pooled", RefusedTest::busy, t -> bit(t.pool(0, 0)), 0);
-        refused("pool what was never thought", RefusedTest::busy, t -> bit(t.pool(4, 0)), 0);
-        refused("pool what was the tithe", RefusedTest::busy, t -> bit(t.pool(1, 3)), 0);
+        refused("pool of no tenant", Busy::make, t -> bit(t.pool(NO_TENANT, 0)), 0);
+        refused("pool no thought", Busy::make, t -> bit(t.pool(0, NO_THOUGHT)), 0);
+        refused("pool by who ran", Busy::make, t -> bit(t.pool(RAN, 3)), 0);
+        refused("pool what was pooled", Busy::make, t -> bit(t.pool(0, 0)), 0);
+        refused("pool what was never thought", Busy::make, t -> bit(t.pool(4, 0)), 0);
+        refused("pool what was the tithe", Busy::make, t -> bit(t.pool(1, 3)), 0);
     }
 
     /** "false: nothing can be." */
@@ -208,7 +184,7 @@ public final class RefusedTest {
             refused("guess " + odd, RefusedTest::withATape, t -> bit(t.guess(odd, true)), 0);
             refused("guess not " + odd, RefusedTest::withATape, t -> bit(t.guess(odd, false)), 0);
         }
-        refused("guess no thought", RefusedTest::busy, t -> bit(t.guess(NO_THOUGHT, true)), 0);
+        refused("guess no thought", Busy::make, t -> bit(t.guess(NO_THOUGHT, true)), 0);
         refused("a ninth guess", RefusedTest::fullOfGuesses, t -> bit(t.guess(1, true)), 0);
         refused("a ninth guess", RefusedTest::fullOfGuesses, t -> bit(t.guess(0, false)), 0);
     }
@@ -219,47 +195,47 @@ public final class RefusedTest {
             refused("lay " + odd, RefusedTest::withATape, t -> bit(t.mark(odd, false)), 0);
             refused("back to " + odd, RefusedTest::withATape, t -> bit(t.mark(odd, true)), 0);
         }
-        refused("back to 1, not laid", RefusedTest::busy, t -> bit(t.mark(1, true)), 0);
-        refused("back to 3, not laid", RefusedTest::busy, t -> bit(t.mark(3, true)), 0);
+        refused("back to 1, not laid", Busy::make, t -> bit(t.mark(1, true)), 0);
+        refused("back to 3, not laid", Busy::make, t -> bit(t.mark(3, true)), 0);
     }
 
     // ---- what is asked
 
     private static void readingsRefused() {
         for (int odd : ODD) {
-            refused("thought " + odd, RefusedTest::busy, t -> t.thought(odd, 0), -1);
-            refused("thought what " + odd, RefusedTest::busy, t -> t.thought(0, odd), -1);
-            refused("tenant " + odd, RefusedTest::busy, t -> t.tenant(odd, 0), -1000);
-            refused("tenant what " + odd, RefusedTest::busy, t -> t.tenant(0, odd), -1000);
-            refused("keeps of tenant " + odd, RefusedTest::busy, t -> t.keeps(odd, 0), -1);
-            refused("keeps of thought " + odd, RefusedTest::busy, t -> t.keeps(0, odd), -1);
+            refused("thought " + odd, Busy::make, t -> t.thought(odd, 0), -1);
+            refused("thought what " + odd, Busy::make, t -> t.thought(0, odd), -1);
+            refused("tenant " + odd, Busy::make, t -> t.tenant(odd, 0), -1000);
+            refused("tenant what " + odd, Busy::make, t -> t.tenant(0, odd), -1000);
+            refused("keeps of tenant " + odd, Busy::make, t -> t.keeps(odd, 0), -1);
+            refused("keeps of thought " + odd, Busy::make, t -> t.keeps(0, odd), -1);
         }
-        refused("count 12", RefusedTest::busy, t -> t.count(12), -1);
-        refused("count -1", RefusedTest::busy, t -> t.count(-1), -1);
+        refused("count 12", Busy::make, t -> t.count(12), -1);
+        refused("count -1", Busy::make, t -> t.count(-1), -1);
     }
 
     private static void questionsRefused() {
         for (int odd : ODD) {
-            refused("tithed of tenant " + odd, RefusedTest::busy, t -> t.tithed(odd, 0), -1);
-            refused("tithed of thought " + odd, RefusedTest::busy, t -> t.tithed(0, odd), -1);
-            refused("ways of tenant " + odd, RefusedTest::busy, t -> t.ways(odd, 0, 1), -1);
-            refused("ways to thought " + odd, RefusedTest::busy, t -> t.ways(0, odd, 1), -1);
-            refused("safe " + odd, RefusedTest::busy, t -> t.safe(odd), -1);
-            refused("dowry " + odd, RefusedTest::busy, t -> t.dowry(odd), -1);
-            refused("chance of tenant " + odd, RefusedTest::busy, t -> t.chance(odd, 0), -1);
-            refused("chance of thought " + odd, RefusedTest::busy, t -> t.chance(0, odd), -1);
-            refused("ring " + odd, RefusedTest::busy, t -> t.ring(odd), -1);
+            refused("tithed of tenant " + odd, Busy::make, t -> t.tithed(odd, 0), -1);
+            refused("tithed of thought " + odd, Busy::make, t -> t.tithed(0, odd), -1);
+            refused("ways of tenant " + odd, Busy::make, t -> t.ways(odd, 0, 1), -1);
+            refused("ways to thought " + odd, Busy::make, t -> t.ways(0, odd, 1), -1);
+            refused("safe " + odd, Busy::make, t -> t.safe(odd), -1);
+            refused("dowry " + odd, Busy::make, t -> t.dowry(odd), -1);
+            refused("chance of tenant " + odd, Busy::make, t -> t.chance(odd, 0), -1);
+            refused("chance of thought " + odd, Busy::make, t -> t.chance(0, odd), -1);
+            refused("ring " + odd, Busy::make, t -> t.ring(odd), -1);
         }
-        refused("match -2", RefusedTest::busy, t -> t.match(-2), -2);
-        refused("match 5", RefusedTest::busy, t -> t.match(NO_TENANT), -2);
-        refused("tithed of who ran", RefusedTest::busy, t -> t.tithed(RAN, 0), -1);
-        refused("chance of who ran", RefusedTest::busy, t -> t.chance(RAN, 0), -1);
-        refused("ways of none", RefusedTest::busy, t -> t.ways(0, 0, 0), -1);
-        refused("ways of ten", RefusedTest::busy, t -> t.ways(0, 0, 10), -1);
-        refused("holders 0", RefusedTest::busy, t -> t.holders(0), -1);
-        refused("holders 7", RefusedTest::busy, t -> t.holders(7), -1);
-        refused("other 1", RefusedTest::busy, t -> t.other(1), -1);
-        refused("other 13", RefusedTest::busy, t -> t.other(13), -1);
+        refused("match -2", Busy::make, t -> t.match(-2), -2);
+        refused("match 5", Busy::make, t -> t.match(NO_TENANT), -2);
+        refused("tithed of who ran", Busy::make, t -> t.tithed(RAN, 0), -1);
+        refused("chance of who ran", Busy::make, t -> t.chance(RAN, 0), -1);
+        refused("ways of none", Busy::make, t -> t.ways(0, 0, 0), -1);
+        refused("ways of ten", Busy::make, t -> t.ways(0, 0, 10), -1);
+        refused("holders 0", Busy::make, t -> t.holders(0), -1);
+        refused("holders 7", Busy::make, t -> t.holders(7), -1);
+        refused("other 1", Busy::make, t -> t.other(1), -1);
+        refused("other 13", Busy::make, t -> t.other(13), -1);
     }
 
     /** Each call that throws NoSuchElementException. */
@@ -284,9 +260,9 @@ public final class RefusedTest {
     }
 
     private static void thrown(String call, Call asked) {
-        TithedThoughts once = busy();
+        TithedThoughts once = Busy.make();
         Check.none(call, () -> asked.of(once));
-        Twins.unchanged(call, RefusedTest::busy, t -> isThrown(() -> asked.of(t)));
+        Twins.unchanged(call, Busy::make, t -> isThrown(() -> asked.of(t)));
     }
 
     private static boolean isThrown(IntSupplier call) {

@@ -6,6 +6,10 @@ public final class RowsTest {
     public static void main(String[] args) {
         best();
         bestOfKinds();
+        bestOfAClever();
+        bestOfASimple();
+        bestOfEqualOnes();
+        bestBarn();
         tithed();
         ways();
         safe();
@@ -85,6 +89,63 @@ public final class RowsTest {
             + "thought d worth 7 part 0;follows b a;follows c b;follows d c;tenant k clever;tithe 2;");
         // a is the first tithe; d is the second one itself, whatever was counted ahead of the first.
         row(chain, 0, 4, 18, 0, 1, 2, 3);
+    }
+
+    /** What is counted already may be the tithe, and what is gained then is by worth alone, 20 being the most. */
+    private static void bestOfAClever() {
+        String text = "thought a worth 20 part 0;thought b worth 19 part 0;thought c worth 1 part 0;"
+            + "follows b a;follows a b;follows c a;follows a c;follows a a;tenant k clever;tithe 2;";
+        TithedThoughts t = Check.told(text);
+        // Behind a, 20, the next one is the tithe itself if it is less; of a and a the first one is.
+        row(t, 0, 2, 40, 0, 0);
+        t.think(0, 1);
+        // b is the tithe, and a is kept.
+        row(t, 0, 1, 20, 0);
+        row(t, 0, 3, 60, 0, 0, 0);
+        TithedThoughts less = Check.told(text.replace("follows a a;", ""));
+        // a b: the tithe is b itself; b a: b is, and both have gained.
+        row(less, 0, 2, 39, 1, 0);
+        row(less, 0, 4, 78, 1, 0, 1, 0);
+        less.think(0, 0);
+        row(less, 0, 1, 0, 1);
+        // b is the tithe itself, and again behind a: nothing of what was counted ahead of a tithe counts any more.
+        row(less, 0, 3, 20, 1, 0, 1);
+        less.think(0, 2);
+        row(less, 0, 1, 20, 0);
+        row(less, 0, 2, 20, 0, 1);
+    }
+
+    /** None is counted of him: counted is 0 in each gain. */
+    private static void bestOfASimple() {
+        TithedThoughts t = Check.told("thought a worth 3 part 0;follows a a;tenant s simple;tithe 2;"
+            + "gains counted*50+rich+barn;");
+        row(t, 0, 1, 0, 0);
+        row(t, 0, 3, 8, 0, 0, 0);
+        t.think(0, 0);
+        row(t, 0, 5, 20, 0, 0, 0, 0, 0);
+    }
+
+    /** "of equal ones the first (by numbers)": of rows the one whose first different thought has the least number. */
+    private static void bestOfEqualOnes() {
+        TithedThoughts t = Check.told(Texts.thoughts(3) + Texts.allFollow("abc") + "tenant p plain;tithe 12;gains 5;");
+        for (int many = 1; many <= 5; many++) {
+            row(t, 0, many, 5 * many, 0, 0, 0, 0, 0);
+        }
+        TithedThoughts u = Check.told(Texts.thoughts(4) + "follows d a;follows c b;follows b c;follows a d;"
+            + "tenant p plain;gains rich+5*(rich=1)+(rich=2);");
+        // a d and d a, b c and c b are alike: 6 + 4 and 3 + 3.
+        row(u, 0, 2, 10, 0, 3);
+        row(u, 0, 3, 16, 0, 3, 0);
+    }
+
+    /** A tithe of the row lies in the barn when the next one gains. */
+    private static void bestBarn() {
+        TithedThoughts t = Check.told("thought a worth 1 part 0;follows a a;tenant p plain;tenant r runner;tithe 2;"
+            + "runs 0;gains 10*barn+counted;");
+        row(t, 0, 5, 1 + 0 + 11 + 0 + 21, 0, 0, 0, 0, 0);
+        // Who runs by the second one has no row of three.
+        row(t, 1, 2, 1 + 2, 0, 0);
+        Check.none("no row of three", () -> t.best(1, 3, -1));
     }
 
     private static void tithed() {

@@ -18,25 +18,31 @@ final class Twins {
     }
 
     static void unchanged(String call, Supplier<TithedThoughts> make, Consumer<TithedThoughts> more) {
+        alike("unchanged by " + call, make, () -> with(make, more));
+    }
+
+    /** Two objects that came by different calls to where all that can be seen of them is the same. */
+    static void alike(String why, Supplier<TithedThoughts> one, Supplier<TithedThoughts> other) {
         for (int look = 0; look < LOOKS.size(); look++) {
-            TithedThoughts one = make.get();
-            TithedThoughts other = make.get();
-            more.accept(other);
-            Check.yes("unchanged by " + call + ", look " + look,
-                LOOKS.get(look).apply(one).equals(LOOKS.get(look).apply(other)));
+            String seen = LOOKS.get(look).apply(one.get());
+            Check.yes(why + ", look " + look, seen.equals(LOOKS.get(look).apply(other.get())));
         }
     }
 
     /** Whether one look at least tells the twins apart. */
     static boolean differ(Supplier<TithedThoughts> make, Consumer<TithedThoughts> more) {
         for (Function<TithedThoughts, String> look : LOOKS) {
-            TithedThoughts other = make.get();
-            more.accept(other);
-            if (!look.apply(make.get()).equals(look.apply(other))) {
+            if (!look.apply(make.get()).equals(look.apply(with(make, more)))) {
                 return true;
             }
         }
         return false;
+    }
+
+    private static TithedThoughts with(Supplier<TithedThoughts> make, Consumer<TithedThoughts> more) {
+        TithedThoughts t = make.get();
+        more.accept(t);
+        return t;
     }
 
     private static String asked(IntSupplier call) {

@@ -9,6 +9,7 @@ public final class YearsTest {
         leftOut();
         ran();
         fromTheBeginning();
+        pooledInYears();
         other();
         lives();
         livesByHand();
@@ -63,6 +64,15 @@ public final class YearsTest {
         judge(t, -1, 1, 2);
         Check.due("how it is stays", t.tenant(0, 1), 2);
         Check.due("lines", t.count(8), 2);
+    }
+
+    /** Pooling in years gives, and the barn that it fills counts in what comes behind it. */
+    private static void pooledInYears() {
+        TithedThoughts t = Check.told(ABBEY + "gains rich+10*barn;");
+        Check.due("years", Check.years(t, "think p a;pool p a;pool p a;think p b;"), 0);
+        judge(t, 2, -1, 4 + 12);
+        Check.due("years", Check.years(t, "think s a;think p b;think k b;pool k b;think r b;"), 0);
+        judge(t, -1, 0, 12 + 12 + 22);
     }
 
     private static void other() {
