@@ -7,6 +7,7 @@ public final class RowsTest {
         best();
         bestOfKinds();
         bestOfAClever();
+        bestWithNothingCounted();
         bestOfASimple();
         bestOfEqualOnes();
         bestBarn();
@@ -113,6 +114,14 @@ public final class RowsTest {
         less.think(0, 2);
         row(less, 0, 1, 20, 0);
         row(less, 0, 2, 20, 0, 1);
+    }
+
+    /** While nothing is counted no thought is the least one, the first told neither. */
+    private static void bestWithNothingCounted() {
+        TithedThoughts t = Check.told("thought a worth 1 part 0;thought b worth 5 part 0;thought c worth 3 part 0;"
+            + "follows c b;tenant k clever;tithe 2;");
+        // Of b and c the tithe is c itself.
+        row(t, 0, 2, 5, 1, 2);
     }
 
     /** None is counted of him: counted is 0 in each gain. */
